@@ -267,7 +267,7 @@ public final class Underpaint {
     public int later(int scratch, int other) throws IndexOutOfBoundsException, UnsupportedOperationException {
         demandIndex(scratch, picture.scratchCount);
         demandIndex(other, picture.scratchCount);
-        demandPossible(picture.scratched(scratch) == picture.scratched(other));
+        demandPossible(picture.areAtOnePlace(scratch, other));
         int left = picture.layersLeft[scratch];
         int otherLeft = picture.layersLeft[other];
         // The layer that tells the order stands on the layers left by the one and among those left by the other.
@@ -426,7 +426,7 @@ public final class Underpaint {
         return redoAllBut(NONE) && spare.isSameAs(picture) && picture.isBounded();
     }
 
-    /** Does an act and keeps it in the file. */
+    /** All acts go through here, and through the same two calls again in redoAllBut, so that they end alike. */
     private int enter(Act act) {
         demandPossible(picture.canBear(act));
         demandRoom(file.size() < MOST_ACTS);
@@ -434,7 +434,7 @@ public final class Underpaint {
         return picture.perform(act);
     }
 
-    /** Does the acts of the file again, on the spare picture; false if one of them cannot be done. */
+    /** Works on the spare picture, as the picture must stay if one of the acts cannot be done. */
     private boolean redoAllBut(int skipped) {
         spare.empty();
         for (int i = 0; i < file.size(); i++) {
@@ -610,7 +610,7 @@ public final class Underpaint {
         }
 
         boolean isSameAs(Layer other) {
-            return stuff == other.stuff && thickness == other.thickness && laidIn == other.laidIn
+            return stuff.number == other.stuff.number && thickness == other.thickness && laidIn == other.laidIn
                 && tone == other.tone && yellow == other.yellow;
         }
     }
@@ -816,7 +816,7 @@ public final class Underpaint {
 
         boolean hasOriginal(Stuff stuff, int year) {
             for (int i = 0; i < size; i++) {
-                if (rows[i].stuff == stuff && rows[i].laidIn <= year) {
+                if (rows[i].stuff.number == stuff.number && rows[i].laidIn <= year) {
                     return true;
                 }
             }
@@ -844,7 +844,7 @@ public final class Underpaint {
         }
     }
 
-    /** All that acts change: the stacks, the year and the scratches. */
+    /** All that acts change, and nothing else, so that it can be made anew from the file. */
     private static final class Picture {
         private final Stack[] stacks = new Stack[PLACES];
         private final int[] scratchPlaces = new int[MOST_ACTS];
@@ -868,6 +868,10 @@ public final class Underpaint {
             return stacks[scratchPlaces[scratch]];
         }
 
+        boolean areAtOnePlace(int scratch, int other) {
+            return scratchPlaces[scratch] == scratchPlaces[other];
+        }
+
         int see(int ray, int x, int y) {
             return ray == RAKING ? raking(x, y) : at(x, y).see(ray);
         }
@@ -884,7 +888,7 @@ public final class Underpaint {
             return most;
         }
 
-        /** The thickness of a fill, 0 or less if the place is not lower than those about it. */
+        /** 0 or less if the place is not lower than those about it. */
         private int missing(int x, int y) {
             int highest = 0;
             for (int i = 0; i < SIDES; i++) {
@@ -913,7 +917,7 @@ public final class Underpaint {
             }
         }
 
-        /** Does an act that it can bear, and returns what the call of it answers. */
+        /** Returns what the act's call answers. */
         int perform(Act act) {
             switch (act.letter) {
                 case 'l':
@@ -1119,9 +1123,8 @@ public final class Underpaint {
         }
     }
 
-    /** One entry of the file, with all that is needed to do it again; what its letter has no use for stays 0. */
+    /** Keeps all that is needed to do it again, as light, damp and loan may be others by then. */
     private static final class Act {
-        /** As an int, to switch on it. */
         final int letter;
         final Stuff stuff;
         /** The thickness, the years, the depth, the minutes or the tone that is wanted. */
