@@ -183,6 +183,9 @@ final class SwabTest {
         Check.same("P32 just the varnish", u.swab(0, 2, 2, 1), 10);
         Check.same("P32 the glaze swells", u.tired(2, 2), 1);
         Check.fails("P32 some glaze", Easel.UNSUPPORTED, () -> u.swab(0, 3, 2, 2));
+        u.solvent(3, 11);
+        u.swab(2, 0, 2, 60);
+        Check.fails("P32 the least of the glaze", Easel.UNSUPPORTED, () -> u.swab(2, 3, 2, 1));
         Check.fails("P32 the glaze alone", Easel.UNSUPPORTED, () -> u.swab(0, 2, 2, 1));
         Check.fails("P32 all the glaze", Easel.UNSUPPORTED, () -> u.swab(0, 3, 2, 9));
         u.sign();
