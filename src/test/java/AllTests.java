@@ -18,6 +18,10 @@ public final class AllTests {
         LoanTest.run();
         FileTest.run();
         SumTest.run();
+        EdgeLayTest.run();
+        EdgeViewTest.run();
+        EdgeMendTest.run();
+        EdgeFileTest.run();
         ModelTest.run();
         System.out.println(Check.passed + " passed, " + Check.failed + " failed");
         if (Check.failed > 0) {
