@@ -685,16 +685,15 @@ final class EdgeMendTest {
         Check.fails("P34 nine layers in a full file", Easel.UNSUPPORTED, () -> u.retouch(7, 3, 3, 0));
     }
 
-    /** Retouching at 3, 3 over a layer as told, over a ground that tells nothing; and alone at 4, 3. */
+    /** Retouching over a layer as told at 2, 3, the same over a ground that must not count at 3, 3; alone at 4, 3. */
     private static Underpaint retouched(char below, int holdBelow, int lampBelow) {
         Underpaint u = new Underpaint();
         Edge.stuffOf(u, 'r', 3, 0, 5);
         Edge.stuffOf(u, below, holdBelow, 0, lampBelow);
         Edge.stuffOf(u, 'g', 9, 0, 5);
         Easel.layAt(u, 2, 10, 3, 3);
-        Easel.layAt(u, 1, 10, 3, 3);
-        Easel.layAt(u, 0, 5, 3, 3);
-        Easel.layAt(u, 0, 5, 4, 3);
+        u.lay(1, 10, 2, 3, 3, 3);
+        u.lay(0, 5, 2, 3, 4, 3);
         return u;
     }
 
@@ -703,7 +702,8 @@ final class EdgeMendTest {
         int[] lamps = {0, 3, 4, 5, 6, 7, 9};
         int[] due = {1, 1, 0, 0, 0, 1, 1};
         for (int i = 0; i < lamps.length; i++) {
-            Check.same("P35 lamp 5 over " + lamps[i], retouched('p', 0, lamps[i]).isTold(3, 3) ? 1 : 0, due[i]);
+            Check.same("P35 lamp 5 over " + lamps[i], retouched('p', 0, lamps[i]).isTold(2, 3) ? 1 : 0, due[i]);
+            Check.same("P35 lamp 5 over " + lamps[i] + " over 5", retouched('p', 0, lamps[i]).isTold(3, 3) ? 1 : 0, due[i]);
         }
         Check.yes("P35 nothing below", retouched('p', 0, 5).isTold(4, 3));
     }
@@ -758,7 +758,8 @@ final class EdgeMendTest {
                 u.solvent(5, 1);
                 boolean takes = "vxfrz".indexOf(kind) >= 0 && hold <= 4;
                 boolean swells = "pz".indexOf(kind) >= 0 && hold <= 5;
-                Check.same("P36 strength 5 over " + kind + hold, u.comesOff(3, 3), takes || swells ? -1 : 0);
+                Check.same("P36 strength 5 over " + kind + hold, u.comesOff(2, 3), takes || swells ? -1 : 0);
+                Check.same("P36 strength 5 over " + kind + hold + " over g9", u.comesOff(3, 3), takes || swells ? -1 : 0);
             }
         }
     }
