@@ -5,6 +5,8 @@ public final class AllTests {
 
     public static void main(String[] args) {
         FaceTest.run();
+        RuleTest.run();
+        ReadmeTest.run();
         StuffTest.run();
         LayerTest.run();
         YearTest.run();
